@@ -18,6 +18,9 @@ public final class VotedFrames {
     private static final int LONGEST_DELAY = 20;
     private static final int WIDEST_ERROR = 3;
     private static final int WIDEST_FAULT = 5000;
+    /** How far beyond DELTA clocks may be apart for a message, and for a reading that counts. */
+    private static final int MESSAGE_SLACK = 20;
+    private static final int READING_SLACK = 3;
     private static final int LONGEST_PERIOD = 8;
     private static final int MOST_FRAMES = 4;
     private static final int TASKS = 4;
@@ -225,6 +228,7 @@ public final class VotedFrames {
 
     private int runFrame() {
         openLines();
+        relay.beginFrame(framesRun);
         agreeOnSensors();
         runDueTasks();
         agreeOnAccused();
@@ -239,7 +243,7 @@ public final class VotedFrames {
         for (int i = 0; i < nodeCount; i++) {
             int heard = 0;
             for (int j = 0; j < nodeCount; j++) {
-                if (j != i && nodes[i].canHear(nodes[j], delta + LONGEST_DELAY)) {
+                if (j != i && nodes[i].canHear(nodes[j], delta + MESSAGE_SLACK)) {
                     heard |= 1 << j;
                 }
             }
@@ -249,7 +253,7 @@ public final class VotedFrames {
 
     private void agreeOnSensors() {
         for (int s = 0; s < nodeCount; s++) {
-            relay.spreadOut(s, nodes[s].sensed, framesRun);
+            relay.spreadOut(s, nodes[s].sensed);
             for (int i = 0; i < nodeCount; i++) {
                 nodes[i].inputs[s] = relay.agreedBy(i);
             }
@@ -278,38 +282,44 @@ public final class VotedFrames {
     }
 
     private void vote(Node voter, int t) {
-        int size = 0;
+        int size = fillBallot(voter);
+        int place = majorityPlace(ballot, size, voter.memberCount());
+        if (place < 0) {
+            voter.words[t] = 0;
+            return;
+        }
+        voter.words[t] = ballot[place];
+        voter.accusedSet |= dissentersFrom(ballot[place], voter);
+    }
+
+    private int fillBallot(Node voter) {
+        ballot[0] = results[voter.number];
+        int size = 1;
         for (int j = 0; j < nodeCount; j++) {
-            if (j == voter.number || contains(voter.heardSet, j)) {
-                ballot[size] = resultAsTold(j, voter);
+            if (contains(voter.heardSet, j)) {
+                ballot[size] = nodes[j].says(results[j], voter.number, framesRun);
                 size++;
             }
         }
-        int place = majorityPlace(ballot, size, voter.memberCount());
-        voter.words[t] = place < 0 ? 0 : ballot[place];
-        if (place >= 0) {
-            accuseDissenters(voter, ballot[place]);
-        }
+        return size;
     }
 
-    private void accuseDissenters(Node voter, int value) {
+    /** Members that the voter does not hear dissent too. */
+    private int dissentersFrom(int value, Node voter) {
+        int dissenters = voter.memberSet & ~(1 << voter.number);
         for (int j = 0; j < nodeCount; j++) {
-            if (j != voter.number && contains(voter.memberSet, j)) {
-                if (!contains(voter.heardSet, j) || resultAsTold(j, voter) != value) {
-                    voter.accusedSet |= 1 << j;
-                }
+            if (contains(voter.heardSet, j)
+                && nodes[j].says(results[j], voter.number, framesRun) == value) {
+                dissenters &= ~(1 << j);
             }
         }
-    }
-
-    private int resultAsTold(int j, Node to) {
-        return j == to.number ? results[j] : nodes[j].says(results[j], to.number, framesRun);
+        return dissenters;
     }
 
     private void agreeOnAccused() {
         int allNodes = (1 << nodeCount) - 1;
         for (int s = 0; s < nodeCount; s++) {
-            relay.spreadOut(s, nodes[s].accusedSet, framesRun);
+            relay.spreadOut(s, nodes[s].accusedSet);
             for (int i = 0; i < nodeCount; i++) {
                 nodes[i].charges[s] = relay.agreedBy(i) & allNodes;
             }
@@ -352,7 +362,7 @@ public final class VotedFrames {
         for (int j = 0; j < nodeCount; j++) {
             if (j != reader.number && contains(reader.memberSet, j) && nodes[j].kind != SILENT) {
                 int difference = reader.differenceTo(nodes[j]);
-                sum += isAtMost(difference, delta + WIDEST_ERROR) ? difference : 0;
+                sum += isAtMost(difference, delta + READING_SLACK) ? difference : 0;
             }
         }
         int count = reader.memberCount();
@@ -527,6 +537,7 @@ public final class VotedFrames {
         private int source;
         private int value;
         private int frameNumber;
+        private int rounds;
 
         Relay(Node[] nodes, int faults) {
             this.nodes = nodes;
@@ -539,11 +550,19 @@ public final class VotedFrames {
             this.lists = new int[faults + 1][nodes.length];
         }
 
-        void spreadOut(int s, int v, int f) {
+        /** Longer paths than the node that bears most looks at need not be filled. */
+        void beginFrame(int f) {
+            frameNumber = f;
+            rounds = 0;
+            for (int i = 0; i < nodes.length; i++) {
+                rounds = Math.max(rounds, nodes[i].bearable(faults));
+            }
+        }
+
+        void spreadOut(int s, int v) {
             source = s;
             value = v;
-            frameNumber = f;
-            send(s, v, 0, 1 << s, mostBorne());
+            send(s, v, 0, 1 << s, rounds);
         }
 
         int agreedBy(int i) {
@@ -555,15 +574,6 @@ public final class VotedFrames {
                 return 0;
             }
             return make(node, 0, 1 << source, node.bearable(faults));
-        }
-
-        /** Longer paths than the node that bears most looks at need not be filled. */
-        private int mostBorne() {
-            int most = 0;
-            for (int i = 0; i < nodes.length; i++) {
-                most = Math.max(most, nodes[i].bearable(faults));
-            }
-            return most;
         }
 
         private int follow(int row, int j) {
