@@ -53,6 +53,17 @@ final class ClocksTest {
         check.due("17 - 3", correctionOfOne(17, -3), 0);
         check.due("-13 - 1", correctionOfOne(-13, -1), 0);
         check.due("-16 + 3", correctionOfOne(-16, 3), -4);
+        VotedFrames x = new VotedFrames(4, 1, 10);
+        x.clock(0, 14, 0);
+        x.clock(2, 3, 0);
+        x.run(1);
+        check.due("correction(1): (0 + 3 + 0) / 4", x.correction(1), 0);
+        x.clock(0, 100, 0);
+        x.clock(1, 0, 0);
+        x.clock(2, 4, 0);
+        x.clock(3, 0, 0);
+        x.run(1);
+        check.due("correction(1): (0 + 4 + 0) / 4", x.correction(1), 1);
     }
 
     /** Bearing 1, so that a lie of one node strikes nobody out. Node 2 stands at 8. */
@@ -122,6 +133,10 @@ final class ClocksTest {
         x.fault(0, 0, 0);
         x.fault(4, 0, 5);
         check.due("spread() of 0 and 4", x.spread(), 520);
+        x.clock(0, 30, 0);
+        x.fault(1, 0, 0);
+        x.clock(1, -40, 0);
+        check.due("spread(): the first two in a row, the lower one behind", x.spread(), 70);
     }
 
     private static void wrongNodes(Check check) {

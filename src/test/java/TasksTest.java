@@ -56,6 +56,7 @@ final class TasksTest {
         program(check, "DIV by a negative", -4, NUM, 7, NUM, -2, DIV, 0);
         program(check, "DIV of two negatives", 3, NUM, -7, NUM, -2, DIV, 0);
         program(check, "DIV of MIN by -1", MIN, NUM, MIN, NUM, -1, DIV, 0);
+        program(check, "DIV by 1", -7, NUM, -7, NUM, 1, DIV, 0);
         program(check, "DIV of 0", 0, NUM, 0, NUM, 5, DIV, 0);
         program(check, "LESS", 1, NUM, -3, NUM, 2, LESS, 0);
         program(check, "LESS of equals", 0, NUM, 2, NUM, 2, LESS, 0);

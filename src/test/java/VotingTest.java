@@ -12,6 +12,7 @@ final class VotingTest {
         halfOfMembersNotOfVotes(check);
         accusedOfSeveralTasks(check);
         bearsAsItWasBefore(check);
+        moreAccusersThanBorne(check);
         struckOutForEver(check);
         runBounds(check);
         wrongNodes(check);
@@ -91,6 +92,10 @@ final class VotingTest {
         check.due("word(0, 0): three votes of four", x.word(0, 0), 6);
         check.due("word(3, 0): one of four", x.word(3, 0), 0);
         due(check, "members", x, new int[] {7, 7, 7, 15}, new int[] {8, 8, 8, 0});
+        x.clock(0, -500, 0);
+        check.due("run(1): 1 and 2 accuse 0", x.run(1), 2);
+        check.due("word(0, 0): one of three, 6 before", x.word(0, 0), 0);
+        check.due("word(1, 0): two of three", x.word(1, 0), 6);
     }
 
     /** Node 3 says 7 for every result: wrong in task 0, right in task 1, and 6 of 7 is told by 2. */
@@ -138,6 +143,27 @@ final class VotingTest {
         }
         check.due("run(1): now one accuser is enough", x.run(1), 2);
         due(check, "behind", x, new int[] {15, 10, 12, 14}, new int[] {0, 0, 0, 0});
+    }
+
+    /** FIXED 4 tells everyone that node 2 is accused. */
+    private static void moreAccusersThanBorne(Check check) {
+        for (int accusers = 1; accusers <= 3; accusers++) {
+            VotedFrames x = new VotedFrames(7, 2, 10);
+            VotedFrames y = new VotedFrames(7, 1, 10);
+            for (int i = 0; i < accusers; i++) {
+                x.fault(i == 2 ? 3 : i, FIXED, 4);
+                y.fault(i == 2 ? 3 : i, FIXED, 4);
+            }
+            if (accusers < 3) {
+                check.due("bearing 2, accusers " + accusers, x.run(1), 0);
+                check.due("bearing 1, accusers " + accusers, y.run(1), accusers == 1 ? 0 : 4);
+                check.due("bearing 1, members(6)", y.members(6), accusers == 1 ? 127 : 123);
+                check.due("bearing 1, members(2)", y.members(2), 127);
+            } else {
+                check.due("bearing 2, accusers 3", x.run(1), 3);
+                check.due("bearing 2, members(6)", x.members(6), 123);
+            }
+        }
     }
 
     private static void struckOutForEver(Check check) {
