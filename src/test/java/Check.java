@@ -1,13 +1,29 @@
-/** Counts and prints the answers that are not the ones that are due. */
+/**
+ * Counts and prints the answers that are not the ones that are due. Each belongs
+ * to a sentence of the document; a sentence that nothing was asked for is wrong too.
+ */
 final class Check {
-    private int wrong;
+    private String sentence;
+    private int sentences;
+    private int askedForSentence;
     private int asked;
+    private int wrong;
+
+    /** From here on the answers tell whether these words of the document hold. */
+    void sentence(String place, String words) {
+        closeSentence();
+        sentence = place + ", \"" + words + "\"";
+        sentences++;
+        askedForSentence = 0;
+    }
 
     void due(String what, long got, long want) {
         asked++;
+        askedForSentence++;
         if (got != want) {
             wrong++;
-            System.out.println(what + " answered " + got + ", due is " + want);
+            String where = sentence == null ? "" : sentence + ": ";
+            System.out.println(where + what + " answered " + got + ", due is " + want);
         }
     }
 
@@ -25,9 +41,17 @@ final class Check {
 
     /** Ends the program, with exit code 1 if there was a wrong answer. */
     void end() {
-        System.out.println(asked + " answers, " + wrong + " of them wrong");
+        closeSentence();
+        System.out.println(sentences + " sentences, " + asked + " answers, " + wrong + " of them wrong");
         if (wrong != 0 || asked == 0) {
             System.exit(1);
+        }
+    }
+
+    private void closeSentence() {
+        if (sentence != null && askedForSentence == 0) {
+            wrong++;
+            System.out.println(sentence + ": nothing was asked");
         }
     }
 }

@@ -60,7 +60,7 @@ final class ModelTest {
     }
 
     private boolean sameAnswers() {
-        int[] got = answers();
+        int[] got = Answers.of(real, model.nodes());
         int[] due = model.answers();
         for (int k = 0; k < due.length; k++) {
             if (got[k] != due[k]) {
@@ -68,33 +68,6 @@ final class ModelTest {
             }
         }
         return Arrays.equals(got, due);
-    }
-
-    private int[] answers() {
-        int n = model.nodes();
-        int[] row = new int[3 + (n + 2) * (5 + 2 * (n + 2) + 6) + 6];
-        int at = 0;
-        row[at++] = real.frame();
-        row[at++] = real.spread();
-        row[at++] = real.alike() ? 1 : 0;
-        for (int i = -1; i <= n; i++) {
-            row[at++] = real.reading(i);
-            row[at++] = real.correction(i);
-            row[at++] = real.bears(i);
-            row[at++] = real.members(i);
-            row[at++] = real.accused(i);
-            for (int s = -1; s <= n; s++) {
-                row[at++] = real.input(i, s);
-                row[at++] = real.charge(i, s);
-            }
-            for (int t = -1; t <= 4; t++) {
-                row[at++] = real.word(i, t);
-            }
-        }
-        for (int t = -1; t <= 4; t++) {
-            row[at++] = real.solo(t);
-        }
-        return row;
     }
 
     /** A good start for votes that have a majority: short sound programs that are due at once. */
