@@ -11,6 +11,7 @@ final class AgreeingTest {
         noMajority(check);
         itsOwnValue(check);
         valuesOfNoMember(check);
+        relayedOfNoMember(check);
         faultyRelays(check);
         lowestBits(check);
         inputsBeforeAFrame(check);
@@ -166,6 +167,19 @@ final class AgreeingTest {
             }
             check.due("input(0, 0)", x.input(0, 0), 100);
         }
+    }
+
+    /** All others go on to relay to node 0 what node 1 says. */
+    private static void relayedOfNoMember(Check check) {
+        check.sentence("Terms", "0 if s is not a member of i; otherwise what i makes of the path s alone.");
+        VotedFrames x = Doc.zeroWithoutOne();
+        x.fault(1, Doc.FIXED, 200);
+        x.run(1);
+        check.due("bears(0) of four members", x.bears(0), 1);
+        check.due("input(0, 1): 200 is relayed by 2, 3 and 4", x.input(0, 1), 0);
+        check.due("input(3, 1)", x.input(3, 1), 200);
+        check.due("charge(0, 1)", x.charge(0, 1), 0);
+        check.due("charge(3, 1): the lowest 5 bits of 200", x.charge(3, 1), 8);
     }
 
     private static void faultyRelays(Check check) {

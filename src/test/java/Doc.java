@@ -64,4 +64,25 @@ final class Doc {
         x.fault(struckOut, CORRECT, 0);
         return x;
     }
+
+    /**
+     * Five nodes with m 1 behind frame 0, in which node 0 alone struck out node 1: it did not
+     * hear it, node 2 accused node 1 too, and nobody heard node 0. All is set as at first again.
+     */
+    static VotedFrames zeroWithoutOne() {
+        VotedFrames x = sensing(5, 1, 1);
+        x.clock(0, 2, 0);
+        x.link(1, 0, 20, 0);
+        x.fault(0, SILENT, 0);
+        x.fault(2, FIXED, 2);
+        everyFrame(x, 0, NUM, 2);
+        x.run(1);
+        x.clear(0);
+        x.link(1, 0, 0, 0);
+        for (int i = 0; i < 5; i++) {
+            x.fault(i, CORRECT, 0);
+            x.clock(i, 0, 0);
+        }
+        return x;
+    }
 }

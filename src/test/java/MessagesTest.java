@@ -9,6 +9,8 @@ final class MessagesTest {
         windowOfResults(check);
         windowOfRelays(check);
         oneWayMembers(check);
+        membersOfRelays(check);
+        membersOfVoters(check);
         silentOnes(check);
         wrappingInputs(check);
         wrappingResults(check);
@@ -92,6 +94,33 @@ final class MessagesTest {
         check.due("input(2, 1) as none", x.input(2, 1), 0);
         check.due("input(1, 0): 1 still takes from 0", x.input(1, 0), 100);
         check.due("input(3, 1): 3 has 1 as a member", x.input(3, 1), 200);
+    }
+
+    /** Node 1 tells 207 to node 3 and 200 to the others; 0 has got nothing that it could relay. */
+    private static void membersOfRelays(Check check) {
+        check.sentence("Terms", "GETS THROUGH if j is a member of i, of what is relayed");
+        VotedFrames x = Doc.zeroWithoutOne();
+        check.due("members(0)", x.members(0), 29);
+        check.due("members(3)", x.members(3), 31);
+        x.fault(1, Doc.TWO_FACED, 7);
+        x.run(1);
+        check.due("input(3, 1): 207, 0, 200 and 200", x.input(3, 1), 0);
+        check.due("input(4, 1): 200, 0, 200 and 207", x.input(4, 1), 0);
+        VotedFrames y = Doc.sensing(5, 1, 1);
+        y.fault(1, Doc.TWO_FACED, 7);
+        y.run(1);
+        check.due("input(3, 1) with all members", y.input(3, 1), 200);
+    }
+
+    private static void membersOfVoters(Check check) {
+        check.sentence("Terms", "GETS THROUGH if j is a member of i, of results");
+        VotedFrames x = Doc.without(3, 4, 1, 10);
+        x.fault(1, Doc.SILENT, 0);
+        x.fault(2, Doc.SILENT, 0);
+        Doc.everyFrame(x, 0, Doc.NUM, 6);
+        x.run(1);
+        check.due("word(0, 0): the vote of 3 is not got", x.word(0, 0), 0);
+        check.due("word(1, 0): two of three, 0 and itself", x.word(1, 0), 6);
     }
 
     private static void silentOnes(Check check) {

@@ -36,11 +36,13 @@ final class RefusedCallsTest {
         check.sentence("Terms", "A call with an argument that is not as said changes nothing, " + of);
     }
 
-    /** All settings differ from those of a new object, and some messages get through just so. */
+    /**
+     * All settings differ from those of a new object, some messages get through just so,
+     * and all nodes are members of all.
+     */
     private static VotedFrames busy() {
         VotedFrames x = Doc.sensing(NODES, 0, 1);
-        x.fault(2, Doc.TWO_FACED, 32);
-        Doc.everyFrame(x, 0, Doc.WORD, 0, Doc.IN, 2, Doc.ADD, 0);
+        Doc.everyFrame(x, 0, Doc.WORD, 0, Doc.IN, 4, Doc.ADD, 0);
         x.code(1, Doc.WORD, 1);
         x.code(1, Doc.NUM, 1);
         x.code(1, Doc.ADD, 0);
@@ -51,6 +53,7 @@ final class RefusedCallsTest {
         }
         x.due(2, 3, 2);
         x.run(1);
+        x.fault(2, Doc.TWO_FACED, 32);
         x.link(1, 0, 0, -2);
         x.link(2, 0, 20, 2);
         for (int i = 0; i < NODES; i++) {
