@@ -94,7 +94,7 @@ final class AlikeTest {
     }
 
     private static void fewerThanTwo(Check check) {
-        check.sentence("Promise 20", "Whether all nodes that are CORRECT now, of one and of none");
+        check.sentence("Promise 20, for one and for none", "Whether all nodes that are CORRECT now");
         VotedFrames x = new VotedFrames(4, 1, 10);
         for (int i = 0; i < 4; i++) {
             x.sensor(i, i + 1);

@@ -134,7 +134,7 @@ final class InstructionsTest {
     }
 
     private static void inputsAndWords(Check check) {
-        check.sentence("Terms", "IN puts the input of node x, WORD puts word x");
+        check.sentence("Terms", "1 IN puts the input of node x .. 2 WORD puts word x");
         program(check, "IN", 66, Doc.IN, 0, Doc.IN, 3, Doc.ADD, 0);
         program(check, "IN of a 0", 0, Doc.IN, 1);
         program(check, "WORD", 0, Doc.WORD, 3);

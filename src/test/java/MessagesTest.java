@@ -55,7 +55,7 @@ final class MessagesTest {
 
     /** Nodes 1 to 3 stand at 0 and hear one another; node 0 hears all of them or none. */
     private static void windowOfResults(Check check) {
-        check.sentence("Terms", "-(DELTA + 20) <= .. <= DELTA + 20, of results");
+        check.sentence("Terms, for results", "-(DELTA + 20) <= .. <= DELTA + 20");
         for (int sum : new int[] {-31, -30, 30, 31}) {
             VotedFrames x = new VotedFrames(4, 1, 10);
             Doc.everyFrame(x, 0, Doc.NUM, 6);
@@ -69,7 +69,7 @@ final class MessagesTest {
 
     /** Node 0 does not hear node 1, and has what 2 and 3 relay: within the window, or not. */
     private static void windowOfRelays(Check check) {
-        check.sentence("Terms", "-(DELTA + 20) <= .. <= DELTA + 20, of what is relayed");
+        check.sentence("Terms, for what is relayed", "-(DELTA + 20) <= .. <= DELTA + 20");
         for (int delay = 18; delay <= 20; delay++) {
             VotedFrames x = Doc.sensing(4, 1, 1);
             x.clock(0, 2, 0);
@@ -98,7 +98,7 @@ final class MessagesTest {
 
     /** Node 1 tells 207 to node 3 and 200 to the others; 0 has got nothing that it could relay. */
     private static void membersOfRelays(Check check) {
-        check.sentence("Terms", "GETS THROUGH if j is a member of i, of what is relayed");
+        check.sentence("Terms, for what is relayed", "GETS THROUGH if j is a member of i");
         VotedFrames x = Doc.zeroWithoutOne();
         check.due("members(0)", x.members(0), 29);
         check.due("members(3)", x.members(3), 31);
@@ -113,7 +113,7 @@ final class MessagesTest {
     }
 
     private static void membersOfVoters(Check check) {
-        check.sentence("Terms", "GETS THROUGH if j is a member of i, of results");
+        check.sentence("Terms, for results", "GETS THROUGH if j is a member of i");
         VotedFrames x = Doc.without(3, 4, 1, 10);
         x.fault(1, Doc.SILENT, 0);
         x.fault(2, Doc.SILENT, 0);
@@ -171,7 +171,7 @@ final class MessagesTest {
 
     /** Inputs of 2 are MAX, MIN, MAX, MIN; what 2 says for its MAX to 1 and 3 is MIN. */
     private static void wrappingResults(Check check) {
-        check.sentence("Terms", "with sums and products that wrap, of results");
+        check.sentence("Terms, for results", "with sums and products that wrap");
         VotedFrames x = new VotedFrames(4, 0, 10);
         x.sensor(2, Doc.MAX);
         x.fault(2, Doc.TWO_FACED, 1);

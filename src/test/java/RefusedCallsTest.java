@@ -32,8 +32,9 @@ final class RefusedCallsTest {
         check.end();
     }
 
-    private void sentence(String of) {
-        check.sentence("Terms", "A call with an argument that is not as said changes nothing, " + of);
+    private void sentence(String call) {
+        check.sentence("Terms, for " + call,
+            "A call with an argument that is not as said changes nothing.");
     }
 
     /**
