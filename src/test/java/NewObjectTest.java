@@ -65,7 +65,7 @@ final class NewObjectTest {
 
     /** The least clock difference that is no more counted is DELTA + 4. */
     private static void deltaOfReadings(Check check) {
-        check.sentence("Promise 1", "DELTA is delta, 1 if that is less, 200 if it is more.");
+        check.sentence("Promise 1, for readings", "DELTA is delta, 1 if that is less, 200 if it is more.");
         int[] asked = {Doc.MIN, -5, 0, 1, 2, 199, 200, 201, Doc.MAX};
         int[] made = {1, 1, 1, 1, 2, 199, 200, 200, 200};
         for (int k = 0; k < asked.length; k++) {
@@ -82,7 +82,7 @@ final class NewObjectTest {
     }
 
     private static void deltaOfMessages(Check check) {
-        check.sentence("Promise 1", "DELTA is delta, 1 if that is less, 200 if it is more.");
+        check.sentence("Promise 1, for messages", "DELTA is delta, 1 if that is less, 200 if it is more.");
         int[] asked = {Doc.MIN, 0, 1, 200, 201, Doc.MAX};
         int[] made = {1, 1, 1, 200, 200, 200};
         for (int k = 0; k < asked.length; k++) {

@@ -123,7 +123,7 @@ final class VotingTest {
 
     /** The FIXED node runs with its own input 100, and is outvoted by 7. */
     private static void nobodyAccusesItself(Check check) {
-        check.sentence("Terms, part 2", "every other member");
+        check.sentence("Terms, part 2, for itself", "every other member");
         VotedFrames x = new VotedFrames(4, 1, 10);
         x.sensor(3, 100);
         x.fault(3, Doc.FIXED, 7);
@@ -134,7 +134,7 @@ final class VotingTest {
     }
 
     private static void membersAloneAreAccused(Check check) {
-        check.sentence("Terms, part 2", "every other member");
+        check.sentence("Terms, part 2, for no members", "every other member");
         VotedFrames x = new VotedFrames(5, 1, 10);
         x.fault(4, Doc.SILENT, 0);
         Doc.everyFrame(x, 0, Doc.NUM, 3);
